@@ -103,7 +103,7 @@ public final class ImageBaker {
         if (asked.parent != null && asked.parent.latest == null) {
             throw new IllegalStateException("the parent was not baked");
         }
-        if (needsBake(asked) && bakeCount >= MAX_BAKES) {
+        if (wouldMakeBake(asked) && bakeCount >= MAX_BAKES) {
             throw new IllegalStateException("there were 60 bakes");
         }
         bakeIfNeeded(asked);
@@ -126,7 +126,7 @@ public final class ImageBaker {
 
     public boolean isFresh(int image) throws IndexOutOfBoundsException {
         for (Image asked = imageAt(image); asked != null; asked = asked.parent) {
-            if (needsBake(asked)) {
+            if (wouldMakeBake(asked)) {
                 return false;
             }
         }
@@ -313,12 +313,11 @@ public final class ImageBaker {
         return found;
     }
 
-    /** The layer with which the image begins when it is baked now. */
-    private static int beginOf(Image image) {
+    private static int topOfParent(Image image) {
         return image.parent == null || image.parent.latest == null ? NONE : image.parent.latest.top;
     }
 
-    /** The layer to which the steps lead from that one now, MISSING if it is not made yet. */
+    // Finds layers and makes none (MISSING instead), because calls that only ask may change nothing.
     private int topFrom(int begin, Image image) {
         int top = begin;
         for (int i = 0; i < image.stepCount; i++) {
@@ -337,23 +336,22 @@ public final class ImageBaker {
         return top;
     }
 
-    /** Tells whether baking the image now would make a bake. */
-    private boolean needsBake(Image image) {
-        return image.latest == null || image.latest.top != topFrom(beginOf(image), image);
+    private boolean wouldMakeBake(Image image) {
+        return image.latest == null || image.latest.top != topFrom(topOfParent(image), image);
     }
 
     private void bakeIfNeeded(Image image) {
-        if (image == null || !needsBake(image) || bakeCount < 0 || bakeCount >= bakes.length) {
+        if (image == null || !wouldMakeBake(image) || bakeCount < 0 || bakeCount >= bakes.length) {
             return;
         }
-        int top = makeTopFrom(beginOf(image), image);
+        int top = makeTopFrom(topOfParent(image), image);
         Bake made = new Bake(bakeCount, image, top, today);
         bakes[bakeCount] = made;
         bakeCount++;
         image.latest = made;
     }
 
-    /** How many bakes would be made if all images were baked, each behind its parent. */
+    // Counted ahead of the first bake, so that bakeAll can refuse with nothing changed.
     private int countBakesToCome() {
         int count = 0;
         // A parent has a lower number, so its top to come is known when its children's are looked for.
@@ -376,7 +374,7 @@ public final class ImageBaker {
         }
     }
 
-    /** Lines up those whose parent it is (null: those without one), by their numbers; answers the end then. */
+    // The parent null stands for none, so that those without a parent are lined up like all others.
     private int lineUpChildren(Image parent, int end) {
         int newEnd = end;
         for (Image child : images) {
@@ -388,7 +386,7 @@ public final class ImageBaker {
         return newEnd;
     }
 
-    /** Holds what the latest bake was made of against what all steps would take now, from the lowest layer on. */
+    // Looks at inputs and versions, never at tops: so isFreshAnew tells in another way what isFresh tells.
     private boolean isMadeAsNow(Image image) {
         if (image.latest == null) {
             return false;
@@ -402,7 +400,7 @@ public final class ImageBaker {
         return alike == height;
     }
 
-    /** Lists the image and its forefathers, the image first; answers how many they are. */
+    // The image stands first and the oldest forefather last, because an image knows only its own parent.
     private int fillForefathers(Image image) {
         int count = 0;
         for (Image listed = image; listed != null && count < forefathers.length; listed = listed.parent) {
@@ -412,7 +410,7 @@ public final class ImageBaker {
         return count;
     }
 
-    /** How many layers of the chain are as all steps would make them, these steps too; MISSING if one is not. */
+    // Answers how many layers are alike then (MISSING: one is not), so that the child's steps go on from there.
     private int followSteps(Image image, int from, int height) {
         if (from < 0) {
             return MISSING;
@@ -478,7 +476,7 @@ public final class ImageBaker {
         return found;
     }
 
-    /** The latest bake from which such a machine can start now, null if there is none. */
+    // From the greatest number down, because the latest of all bakes that can start counts.
     private Bake bakeFor(Image image, int place, int ring) {
         for (int i = bakes.length - 1; i >= 0; i--) {
             Bake bake = bakes[i];
@@ -506,7 +504,7 @@ public final class ImageBaker {
         return found != null && found != machine.bake;
     }
 
-    /** Lists the machines that have to be renewed in their order; answers how many they are. */
+    // By rising numbers, so that of two machines that are alike the lower number stays ahead.
     private int fillWaiting() {
         int count = 0;
         for (Machine machine : machines) {
@@ -529,7 +527,7 @@ public final class ImageBaker {
         }
     }
 
-    /** Tells whether a machine with that bake goes ahead of the other one, whose number is lower. */
+    // The other machine's number is lower, so it stays ahead if nothing else tells them apart.
     private static boolean isAhead(Bake bake, Machine other) {
         if (bake == null || other == null || other.bake == null) {
             return false;
@@ -577,7 +575,7 @@ public final class ImageBaker {
             return layer >= 0 && layer < count && at(inputs, layer) == input && at(versions, layer) == version;
         }
 
-        /** Lists a top and the layers below it, the lowest last; answers how many they are. */
+        // The lowest layer stands last, because a layer knows only the one below it.
         private int fillChain(int top, int[] chain) {
             int height = 0;
             int layer = top;

@@ -664,6 +664,26 @@ final class ImageBoundaries {
         Check.due(false, none.isFreshAnew(0));
         none.bake(0);
         Check.due(true, none.isFreshAnew(0));
+        freshAnewWhateverWasAskedBefore();
+    }
+
+    /** Image 1 was made of nothing and would take the steps 0, 1, 2 now; image 2, which is asked before, was made of 1, 2. */
+    private static void freshAnewWhateverWasAskedBefore() {
+        Check.says(8, "against what all steps of its forefathers and its own would take now");
+        Baker x = Check.made(Settings::oneImage);
+        x.add(0);
+        x.add(-1);
+        x.bakeAll();
+        x.step(0, 0);
+        for (int input = 1; input <= 2; input++) {
+            x.step(1, input);
+            x.step(2, input);
+        }
+        x.bake(0);
+        x.bake(2);
+        Check.due(true, x.isFreshAnew(0));
+        Check.due(true, x.isFreshAnew(2));
+        Check.due(false, x.isFreshAnew(1));
     }
 
     private static void freshAnewWithTheMostLayers() {

@@ -1,3 +1,4 @@
+import java.lang.reflect.Constructor;
 import java.lang.reflect.Field;
 import java.lang.reflect.Method;
 import java.lang.reflect.Modifier;
@@ -50,6 +51,12 @@ public final class FaceTests {
         "System.", "Thread", "\" +", "+ \"", "==\"", ".equals(", ".hashCode(", ".toString(",
     };
 
+    private static final Path SOURCE = Path.of("src/main/java/ImageBaker.java");
+    private static final int MOST_PARAMETERS = 7;
+    private static final int MOST_CLASSES = 12;
+    private static final int MOST_FIELDS = 20;
+    private static final int MOST_LINES = 60;
+
     private static int wrong = 0;
 
     public static void main(String[] args) throws Exception {
@@ -59,7 +66,9 @@ public final class FaceTests {
         faceIsThatOfTheDocument(baker);
         fieldsAreHidden(baker);
         innerClassesAreStatic(baker);
+        sizesAreKept(baker);
         sourceHasNoForbiddenWords();
+        methodsAreShort();
         if (wrong > 0) {
             System.exit(1);
         }
@@ -112,11 +121,19 @@ public final class FaceTests {
         return String.join(", ", names);
     }
 
+    private static List<Class<?>> withThoseInside(Class<?> baker) {
+        List<Class<?>> all = new ArrayList<>(Arrays.asList(baker.getDeclaredClasses()));
+        all.add(baker);
+        return all;
+    }
+
     private static void fieldsAreHidden(Class<?> baker) {
-        for (Field field : baker.getDeclaredFields()) {
-            due(Modifier.isPrivate(field.getModifiers()), field.getName() + " is private");
-            boolean isStatic = Modifier.isStatic(field.getModifiers());
-            due(!isStatic || Modifier.isFinal(field.getModifiers()), field.getName() + " is final if static");
+        for (Class<?> each : withThoseInside(baker)) {
+            for (Field field : each.getDeclaredFields()) {
+                due(Modifier.isPrivate(field.getModifiers()), field.getName() + " is private");
+                boolean isStatic = Modifier.isStatic(field.getModifiers());
+                due(!isStatic || Modifier.isFinal(field.getModifiers()), field.getName() + " is final if static");
+            }
         }
     }
 
@@ -127,12 +144,41 @@ public final class FaceTests {
         }
     }
 
+    /** The numbers of the rule 11. */
+    private static void sizesAreKept(Class<?> baker) {
+        due(baker.getDeclaredClasses().length < MOST_CLASSES, "at most " + MOST_CLASSES + " classes");
+        for (Class<?> each : withThoseInside(baker)) {
+            int fields = 0;
+            for (Field field : each.getDeclaredFields()) {
+                fields += Modifier.isStatic(field.getModifiers()) ? 0 : 1;
+            }
+            due(fields <= MOST_FIELDS, "at most " + MOST_FIELDS + " fields in " + each.getName());
+            for (Method method : each.getDeclaredMethods()) {
+                due(method.getParameterCount() <= MOST_PARAMETERS, method.getName() + " takes at most 7 parameters");
+            }
+            for (Constructor<?> constructor : each.getDeclaredConstructors()) {
+                due(constructor.getParameterCount() <= MOST_PARAMETERS, each.getName() + " takes at most 7 parameters");
+                due(constructor.getExceptionTypes().length == 0, "the constructor of " + each.getName() + " throws nothing");
+            }
+        }
+    }
+
+    /** No method holds an empty line, so what stands between two empty lines is one method, or a row of fields. */
+    private static void methodsAreShort() throws Exception {
+        int lines = 0;
+        for (String line : Files.readAllLines(SOURCE)) {
+            lines = line.isBlank() ? 0 : lines + 1;
+            due(lines <= MOST_LINES, "at most " + MOST_LINES + " lines up to: " + line.strip());
+        }
+    }
+
     private static void sourceHasNoForbiddenWords() throws Exception {
-        for (String line : Files.readAllLines(Path.of("src/main/java/ImageBaker.java"))) {
+        for (String line : Files.readAllLines(SOURCE)) {
             boolean isComment = line.strip().startsWith("//") || line.strip().startsWith("*") || line.strip().startsWith("/*");
             for (String word : NOT_IN_THE_LANGUAGE) {
                 due(isComment || !line.contains(word), "no " + word + " in: " + line.strip());
             }
+            due(line.chars().allMatch(sign -> sign >= ' ' && sign <= '~'), "only signs up to 126 in: " + line.strip());
         }
     }
 }
